@@ -20,6 +20,8 @@ public final class AnswersTest {
         promise22Size();
         promise23Same();
         promise24Below();
+        promise24BelowLooksAtAll();
+        allDotsMade();
         CHECK.end();
     }
 
@@ -307,5 +309,46 @@ public final class AnswersTest {
             CHECK.refused("24 replica", INDEX, () -> x.below(r, 0));
             CHECK.refused("24 replica", INDEX, () -> x.below(0, r));
         }
+    }
+
+    private static void promise24BelowLooksAtAll() {
+        DotStores x = new DotStores();
+        x.twice(0, 31, true);
+        x.merge(1, 0);
+        CHECK.due("24 a put that both have", 1, () -> x.below(1, 0));
+        x.twice(2, 31, false);
+        x.merge(3, 2);
+        CHECK.due("24 a take that both have", 1, () -> x.below(3, 2));
+        x.timed(4, 31, 7, true);
+        x.merge(5, 4);
+        CHECK.due("24 a time that both have", 1, () -> x.below(5, 4));
+        CHECK.due("24 nothing is left of the look before", 0, () -> x.below(1, 4));
+        CHECK.due("24 nothing is left of the look before", 0, () -> x.below(4, 1));
+    }
+
+    /** With each delta a dot: the fullest that an object can be, where a walk over its dots must still end in time. */
+    private static void allDotsMade() {
+        DotStores x = new DotStores();
+        for (int i = 0; i < 250; i++) {
+            x.write(i / 100, 13, i);
+            if (i % 2 == 1) {
+                x.join(5, i);
+            }
+        }
+        CHECK.refused("3 no delta any more", IllegalStateException.class, () -> x.write(2, 13, 0));
+        CHECK.due("14 has", 1, () -> x.has(5, 13, 0));
+        CHECK.due("14 has not", 0, () -> x.has(5, 13, 1));
+        CHECK.due("15 values", 125, () -> x.values(5, 13));
+        CHECK.due("16 the least", 1, () -> x.value(5, 13, 0));
+        CHECK.due("16 the greatest", 249, () -> x.value(5, 13, 124));
+        CHECK.due("17 sum", 125 * 125, () -> x.sum(5, 13));
+        CHECK.due("18 keys", 1 << 13, () -> x.keys(5));
+        CHECK.due("21 without a gap", 50, () -> x.seen(5, 2, 0));
+        CHECK.due("21 the greatest", 100, () -> x.seen(5, 1, 2));
+        CHECK.due("22 live", 125, () -> x.size(5, 0));
+        CHECK.due("22 seen", 250, () -> x.size(5, 1));
+        CHECK.due("22 the last delta", 2, () -> x.size(-251, 1));
+        CHECK.due("10 merge", 1, () -> x.merge(0, 5));
+        CHECK.refused("6 no delta any more", IllegalStateException.class, () -> x.clear(0, 13));
     }
 }

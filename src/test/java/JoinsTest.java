@@ -151,28 +151,33 @@ public final class JoinsTest {
         x.element(0, 0, 5, true);
         x.element(0, 0, 6, true);
         x.element(0, 0, 5, false);
+        x.clear(0, 8);
         x.twice(0, 2, false);
+        x.twice(0, 31, true);
         x.timed(0, 3, 8, true);
-        CHECK.due("12 whole", 5, () -> x.whole(0));
-        CHECK.due("12 live", 1, () -> x.size(-7, 0));
-        CHECK.due("12 seen", 2, () -> x.size(-7, 1));
+        x.timed(0, 31, 4, true);
+        CHECK.due("12 whole", 8, () -> x.whole(0));
+        CHECK.due("12 live", 1, () -> x.size(-10, 0));
+        CHECK.due("12 seen", 2, () -> x.size(-10, 1));
         x.element(0, 0, 7, true);
         x.twice(0, 30, true);
         x.timed(0, 3, 9, false);
-        CHECK.due("12 it never changes", 2, () -> x.size(-7, 1));
-        CHECK.due("12 join", 1, () -> x.join(1, 5));
+        CHECK.due("12 it never changes", 2, () -> x.size(-10, 1));
+        CHECK.due("12 join", 1, () -> x.join(1, 8));
         CHECK.due("12 element 6", 1, () -> x.has(1, 0, 6));
         CHECK.due("12 no element 7", 0, () -> x.has(1, 0, 7));
         CHECK.due("12 no later put", 0, () -> x.inTwice(1, 30));
+        CHECK.due("12 the put came along", 1, () -> x.inTwice(1, 31));
+        CHECK.due("12 the last element's time came along", 4, () -> x.inTimed(1, 31, 1));
         CHECK.due("12 the time then", 8, () -> x.inTimed(1, 3, 1));
         x.twice(1, 2, true);
         CHECK.due("12 taken came along", 0, () -> x.inTwice(1, 2));
-        CHECK.due("12 an empty one", 10, () -> x.whole(5));
-        CHECK.due("12 is empty", 0, () -> x.join(4, 10));
+        CHECK.due("12 an empty one", 13, () -> x.whole(5));
+        CHECK.due("12 is empty", 0, () -> x.join(4, 13));
         for (int r : NO_REPLICA) {
             CHECK.refused("12 replica", INDEX, () -> x.whole(r));
         }
-        CHECK.due("12 nothing came of it", 11, x::deltas);
+        CHECK.due("12 nothing came of it", 14, x::deltas);
     }
 
     private static void promise13Deltas() {
