@@ -4,8 +4,26 @@ final class Check {
         long run();
     }
 
+    private String sentence = "";
+    private int callsOfSentence = 1;
+    private int sentences = 0;
     private int calls = 0;
     private int wrong = 0;
+
+    /** The words of the document that the calls from here on look at: a wrong answer is told with them. */
+    void sentence(String words) {
+        endSentence();
+        sentence = words;
+        callsOfSentence = 0;
+        sentences++;
+    }
+
+    private void endSentence() {
+        if (callsOfSentence == 0) {
+            wrong++;
+            System.out.println(sentence + " | nothing was looked at");
+        }
+    }
 
     void due(String what, long want, Call call) {
         tell(what, String.valueOf(want), answer(call));
@@ -18,9 +36,11 @@ final class Check {
 
     void tell(String what, String want, String got) {
         calls++;
+        callsOfSentence++;
         if (!want.equals(got)) {
             wrong++;
-            System.out.println(what + " answered " + got + ", due is " + want);
+            String where = sentence.isEmpty() ? what : sentence + " | " + what;
+            System.out.println(where + " answered " + got + ", due is " + want);
         }
     }
 
@@ -37,7 +57,9 @@ final class Check {
     }
 
     void end() {
-        System.out.println(calls + " answers, " + wrong + " wrong");
+        endSentence();
+        String looked = sentences == 0 ? "" : sentences + " sentences, ";
+        System.out.println(looked + calls + " answers, " + wrong + " wrong");
         if (wrong != 0 || calls == 0) {
             System.exit(1);
         }

@@ -9,6 +9,7 @@ import java.util.Arrays;
 import java.util.List;
 import java.util.Set;
 import java.util.TreeSet;
+import java.util.regex.Pattern;
 
 /** The public face of the document, and those rules of LANGUAGE.md that the class or its text shows. */
 public final class FaceTest {
@@ -40,8 +41,12 @@ public final class FaceTest {
         "int same(int, int)" + INDEX,
         "int below(int, int)" + INDEX,
     };
+    // What the rules 1, 2, 4, 6 and 13 rule out, as far as single words show it.
     private static final String[] RULED_OUT = {
-        "catch", "finally", "synchronized", "assert", "import", "package", "System.out", "->", "::", "Exact(",
+        "^\\s*package\\b", "^\\s*import\\s+(?!java\\.util\\.)", "::", "\\)\\s*->", "\\w+Exact\\(", "\\bfinally\\b",
+        "\\bsynchronized\\b", "\\bassert\\b", "\\bgetMessage\\b", "\\bThread\\b", "\\bRandom\\b", "\\brandom\\(",
+        "\\bSystem\\.(?!arraycopy\\b)", "\\bcatch\\s*\\(\\s*(Exception|Throwable|Error|NullPointerException"
+            + "|ArrayIndexOutOfBoundsException|ClassCastException|NegativeArraySizeException|ArrayStoreException)\\b",
     };
 
     private static final Check CHECK = new Check();
@@ -118,7 +123,7 @@ public final class FaceTest {
         String text = Files.readString(Path.of("src/main/java/DotStores.java"));
         List<String> found = new ArrayList<>();
         for (String word : RULED_OUT) {
-            if (text.contains(word)) {
+            if (Pattern.compile(word, Pattern.MULTILINE).matcher(text).find()) {
                 found.add(word);
             }
         }

@@ -9,11 +9,9 @@ import java.util.Set;
 
 /** What an object keeps must leave the room for a run (600,000 objects, 7.3 million elements) far from full. */
 public final class RoomTest {
-    private static final int MOST_OBJECTS = 1_200;
-    private static final int MOST_ELEMENTS = 16_000;
-    // Even a run that made an object with each of its 512 calls must have room.
-    private static final int MOST_NEW_OBJECTS = 1_000;
-    private static final int MOST_NEW_ELEMENTS = 13_000;
+    // A tenth of the room: what a call makes and drops again is counted, too, and is not seen here.
+    private static final int MOST_OBJECTS = 60_000;
+    private static final int MOST_ELEMENTS = 730_000;
 
     private static final Check CHECK = new Check();
 
@@ -21,9 +19,9 @@ public final class RoomTest {
     private int elements = 0;
 
     public static void main(String[] args) throws IllegalAccessException {
-        look("a new object", new DotStores(), MOST_NEW_OBJECTS, MOST_NEW_ELEMENTS);
-        look("dots", allDots(), MOST_OBJECTS, MOST_ELEMENTS);
-        look("whole states", allWhole(), MOST_OBJECTS, MOST_ELEMENTS);
+        look("a new object", new DotStores());
+        look("dots", allDots());
+        look("whole states", allWhole());
         CHECK.end();
     }
 
@@ -46,12 +44,12 @@ public final class RoomTest {
         return x;
     }
 
-    private static void look(String what, DotStores x, int mostObjects, int mostElements) throws IllegalAccessException {
+    private static void look(String what, DotStores x) throws IllegalAccessException {
         RoomTest room = new RoomTest();
         room.walk(x);
         System.out.println(what + ": " + room.objects + " objects, " + room.elements + " elements");
-        CHECK.due(what + " keeps few objects", 1, () -> room.objects <= mostObjects ? 1 : 0);
-        CHECK.due(what + " keeps few elements", 1, () -> room.elements <= mostElements ? 1 : 0);
+        CHECK.due(what + " keeps few objects", 1, () -> room.objects <= MOST_OBJECTS ? 1 : 0);
+        CHECK.due(what + " keeps few elements", 1, () -> room.elements <= MOST_ELEMENTS ? 1 : 0);
     }
 
     private void walk(Object root) throws IllegalAccessException {
